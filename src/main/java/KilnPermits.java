@@ -727,7 +727,7 @@ public final class KilnPermits {
     /** Permits by the year for which they were issued. */
     private static final class Permits {
         int[] byYear = new int[FIRST_ROOM_OF_YEARS];
-        // From this year on the row may hold what an earlier use left there.
+        // At most the length of the row, which may hold from here on what an earlier use left.
         int years;
         int total;
 
@@ -760,9 +760,8 @@ public final class KilnPermits {
             if (year >= byYear.length) {
                 byYear = Arrays.copyOf(byYear, Math.max(year + 1, 2 * byYear.length));
             }
-            if (year >= years) {
-                Arrays.fill(byYear, years, year + 1, 0);
-                years = year + 1;
+            for (; years <= year; years++) {
+                byYear[years] = 0;
             }
             byYear[year] += permits;
             total += permits;

@@ -445,6 +445,24 @@ public final class PromisesTest {
         c.due(21, x.order(false, 0, 0));
         c.due(0, x.kiln(2, HELD));
         c.due(6000, x.count(11));
+        // a single one that is left has no room either
+        KilnPermits y = new KilnPermits();
+        y.issue(0, 20);
+        for (int i = 0; i < 16; i++) {
+            y.ask(0, 1, 30);
+        }
+        c.due(0, y.bid(1, 1, 29));
+        c.due(16, y.count(7));
+        c.due(1000, y.kiln(1, COINS));
+        c.due(0, y.ask(0, 1, 30));
+        c.due(16, y.count(7));
+        c.due(4, y.kiln(0, PERMITS));
+        // and one that meets all of them has room again
+        c.due(16, y.bid(1, 20, 30));
+        c.due(1, y.count(7));
+        c.due(4, y.order(true, 0, 2));
+        c.due(18, y.order(true, 0, 0));
+        c.due(400, y.kiln(1, COINS));
     }
 
     private static void orderAll() {
@@ -918,6 +936,16 @@ public final class PromisesTest {
         x.undo();
         c.due(100, x.kiln(1, PERMITS));
         c.due(1, x.ofYear(1, 0));
+        // the document's edge, though an object is not used for that many calls
+        KilnPermits y = new KilnPermits();
+        for (int year = 0; year < 999; year++) {
+            y.endYear();
+        }
+        c.due(999, y.count(0));
+        c.due(5, y.issue(0, 5));
+        c.due(5, y.ofYear(0, 999));
+        c.due(FULL, y.endYear());
+        c.due(999, y.count(0));
     }
 
     private static void type() {
@@ -1053,6 +1081,10 @@ public final class PromisesTest {
         for (int which = 0; which <= 12; which++) {
             c.part("promise 15, act " + which);
             KilnPermits x = busyTown();
+            x.buyReserve(4, 1);
+            x.bid(5, 1, 40);
+            x.fire(4, 3, 1);
+            x.audit(4);
             x.keep();
             x.fire(5, 7, 7);
             String before = all(x);
@@ -1179,6 +1211,23 @@ public final class PromisesTest {
         c.due(0, x.ofYear(0, 1));
         x.endYear();
         c.due(0, x.ofYear(0, 2));
+        // what was issued in a year that is no more does not come back when that year comes again
+        KilnPermits y = new KilnPermits();
+        y.issue(0, 3);
+        y.keep();
+        y.endYear();
+        y.endYear();
+        y.issue(0, 8);
+        y.restore();
+        y.endYear();
+        y.endYear();
+        y.endYear();
+        y.issue(0, 2);
+        c.due(3, y.ofYear(0, 0));
+        c.due(0, y.ofYear(0, 1));
+        c.due(0, y.ofYear(0, 2));
+        c.due(2, y.ofYear(0, 3));
+        c.due(5, y.kiln(0, PERMITS));
     }
 
     private static void order() {
