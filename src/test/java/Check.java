@@ -42,7 +42,7 @@ final class Check {
 
     private static String callersLine() {
         return StackWalker.getInstance().walk(frames -> frames
-            .filter(frame -> !frame.getClassName().equals("Check"))
+            .filter(frame -> !frame.getClassName().equals("Check") && !frame.getClassName().equals("Twins"))
             .map(frame -> frame.getFileName() + ":" + frame.getLineNumber())
             .findFirst().orElse("?"));
     }

@@ -71,13 +71,6 @@ public final class PromisesTest {
         c.close();
     }
 
-    private static void typeAll(KilnPermits x, String text) {
-        x.clearText();
-        for (int i = 0; i < text.length(); i++) {
-            x.type(text.charAt(i));
-        }
-    }
-
     private static void wrongKilns(int answer) {
         c.due(UNKNOWN, answer);
     }
@@ -469,7 +462,7 @@ public final class PromisesTest {
         c.part("promise 7");
         KilnPermits x = new KilnPermits();
         x.issue(0, 999);
-        typeAll(x, "a0:20@30;b1:5@40;b2:6@30");
+        Asking.typeAll(x, "a0:20@30;b1:5@40;b2:6@30");
         c.due(11, x.orderAll());
         c.due(2, x.count(19));
         c.due(3, x.count(8));
@@ -484,20 +477,20 @@ public final class PromisesTest {
         c.due(1000, x.kiln(1, COINS));
         c.due(999, x.kiln(0, PERMITS));
         c.due(11, x.orderAll());
-        typeAll(x, "b5:1@10");
+        Asking.typeAll(x, "b5:1@10");
         c.due(0, x.orderAll());
         c.due(10, x.order(true, 0, 3));
         x.set(CEILING, 500);
-        typeAll(x, "a0:900@500");
+        Asking.typeAll(x, "a0:900@500");
         c.due(0, x.orderAll());
         c.due(500, x.order(false, 1, 3));
         c.due(900, x.order(false, 1, 2));
         // as many as a text can hold
         KilnPermits y = new KilnPermits();
         y.set(FLOOR, 1);
-        typeAll(y, "b0:1@1;b1:1@2;b2:1@3;b3:1@4;b4:1@5;b5:1@6;b0:1@7;b1:9@800");
+        Asking.typeAll(y, "b0:1@1;b1:1@2;b2:1@3;b3:1@4;b4:1@5;b5:1@6;b0:1@7;b1:9@800");
         c.due(-100 - 56, y.orderAll());
-        typeAll(y, "b0:1@1;b1:1@2;b2:1@3;b3:1@4;b4:1@5;b5:1@6;b0:1@7;b1:9@80");
+        Asking.typeAll(y, "b0:1@1;b1:1@2;b2:1@3;b3:1@4;b4:1@5;b5:1@6;b0:1@7;b1:9@80");
         c.due(56, y.count(20));
         c.due(0, y.orderAll());
         c.due(8, y.count(7));
@@ -510,7 +503,7 @@ public final class PromisesTest {
         KilnPermits x = new KilnPermits();
         x.issue(0, 5);
         x.bid(3, 2, 50);
-        typeAll(x, "a0:3@20;b1:4@30;a0:4@20");
+        Asking.typeAll(x, "a0:3@20;b1:4@30;a0:4@20");
         c.due(FULL, x.orderAll());
         c.due(5, x.kiln(0, PERMITS));
         c.due(1000, x.kiln(0, COINS));
@@ -524,16 +517,16 @@ public final class PromisesTest {
         c.due(2, x.count(19));
         c.due(23, x.count(20));
         // what an order earned lets a later one come
-        typeAll(x, "a0:2@20;b0:11@99;b0:2@5");
+        Asking.typeAll(x, "a0:2@20;b0:11@99;b0:2@5");
         c.due(BAD_VALUE, x.orderAll());
-        typeAll(x, "a0:2@20;b0:11@100");
+        Asking.typeAll(x, "a0:2@20;b0:11@100");
         c.due(2, x.orderAll());
         c.due(0, x.kiln(0, COINS));
         x.undo();
         // the first order that has an error tells it, when its turn comes
-        typeAll(x, "b0:11@100;b0:1@101");
+        Asking.typeAll(x, "b0:11@100;b0:1@101");
         c.due(FULL, x.orderAll());
-        typeAll(x, "b0:1@101;b0:11@100");
+        Asking.typeAll(x, "b0:1@101;b0:11@100");
         c.due(BAD_VALUE, x.orderAll());
         c.due(2, x.count(19));
         c.due(1, x.undo());
@@ -543,7 +536,7 @@ public final class PromisesTest {
 
     private static void fault(int fault, String text) {
         KilnPermits x = new KilnPermits();
-        typeAll(x, text);
+        Asking.typeAll(x, text);
         c.part("promise 7, text \"" + text + "\"");
         c.due(-100 - fault, x.orderAll());
         c.due(0, x.count(8));
@@ -979,7 +972,7 @@ public final class PromisesTest {
         c.part("promise 14");
         KilnPermits x = new KilnPermits();
         c.due(0, x.clearText());
-        typeAll(x, "b0:1@10");
+        Asking.typeAll(x, "b0:1@10");
         c.due(7, x.clearText());
         c.due(0, x.count(20));
         c.due(0, x.clearText());
@@ -1017,29 +1010,6 @@ public final class PromisesTest {
         c.due(3, x.kiln(0, PERMITS));
     }
 
-    /** Everything that an object tells, in one text. */
-    private static String all(KilnPermits x) {
-        StringBuilder told = new StringBuilder();
-        for (int what = 0; what <= 18; what++) {
-            told.append(x.count(what)).append(' ');
-        }
-        for (int kiln = 0; kiln < 6; kiln++) {
-            for (int what = 0; what <= 11; what++) {
-                told.append(x.kiln(kiln, what)).append(' ');
-            }
-            for (int year = 0; year <= x.count(0); year++) {
-                told.append(x.ofYear(kiln, year)).append(' ');
-            }
-        }
-        for (int rank = 0; rank <= 16; rank++) {
-            for (int what = 0; what <= 3; what++) {
-                told.append(x.order(true, rank, what)).append(' ');
-                told.append(x.order(false, rank, what)).append(' ');
-            }
-        }
-        return told.toString();
-    }
-
     private static KilnPermits busyTown() {
         KilnPermits x = new KilnPermits();
         x.set(MOST_BORROWED, 50);
@@ -1055,7 +1025,7 @@ public final class PromisesTest {
         x.bid(4, 2, 22);
         x.fire(1, 20, 10);
         x.borrow(1, 3);
-        typeAll(x, "b5:4@30;a1:5@22");
+        Asking.typeAll(x, "b5:4@30;a1:5@22");
         return x;
     }
 
@@ -1087,12 +1057,12 @@ public final class PromisesTest {
             x.audit(4);
             x.keep();
             x.fire(5, 7, 7);
-            String before = all(x);
+            String before = Asking.all(x);
             c.holds("the act is done", act(x, which) >= 0);
-            c.holds("the act changes", !all(x).equals(before));
+            c.holds("the act changes", !Asking.all(x).equals(before));
             c.due(4, x.count(19));
             c.due(3, x.undo());
-            c.holds("all is as before", all(x).equals(before));
+            c.holds("all is as before", Asking.all(x).equals(before));
         }
     }
 
@@ -1124,24 +1094,24 @@ public final class PromisesTest {
         c.due(NONE, x.restore());
         c.due(0, x.count(19));
         KilnPermits y = busyTown();
-        String kept = all(y);
+        String kept = Asking.all(y);
         c.due(1, y.keep());
         y.endYear();
         y.takeBack(0);
         y.issue(0, 50);
         y.set(FLOOR, 33);
-        String changed = all(y);
+        String changed = Asking.all(y);
         c.due(1, y.restore());
-        c.holds("all is as it was kept", all(y).equals(kept));
+        c.holds("all is as it was kept", Asking.all(y).equals(kept));
         c.due(4, y.count(19));
         c.due(3, y.undo());
-        c.holds("restore() is undone", all(y).equals(changed));
+        c.holds("restore() is undone", Asking.all(y).equals(changed));
         c.due(1, y.restore());
-        c.holds("the snapshot stays", all(y).equals(kept));
+        c.holds("the snapshot stays", Asking.all(y).equals(kept));
         y.issue(0, 1);
         y.orderAll();
         c.due(1, y.restore());
-        c.holds("the snapshot is no state of now", all(y).equals(kept));
+        c.holds("the snapshot is no state of now", Asking.all(y).equals(kept));
     }
 
     private static void kiln() {
@@ -1355,8 +1325,8 @@ public final class PromisesTest {
     private static void nothingChangesWithAnError() {
         c.part("errors");
         KilnPermits x = busyTown();
-        typeAll(x, "b5:4@30;a1:7@22");
-        String before = all(x);
+        Asking.typeAll(x, "b5:4@30;a1:7@22");
+        String before = Asking.all(x);
         c.due(FULL, x.orderAll());
         c.due(FULL, x.bid(0, 999, 100));
         c.due(FULL, x.ask(0, 9, 20));
@@ -1373,6 +1343,6 @@ public final class PromisesTest {
         c.due(UNKNOWN, x.takeBack(99));
         c.due(UNKNOWN, x.audit(6));
         c.due(4, x.count(19));
-        c.holds("nothing has changed", all(x).equals(before));
+        c.holds("nothing has changed", Asking.all(x).equals(before));
     }
 }
