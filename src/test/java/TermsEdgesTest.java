@@ -80,6 +80,10 @@ public final class TermsEdgesTest extends Edges {
         says("each with coins (1000 at first; 0 to 999999)");
         coins();
 
+        says("permits by the year for which they were issued");
+        permitsOfManyYears();
+        yearsThatComeAgain();
+
         says("A permit covers one unit of smoke, in the year for which it was issued, or in any later one.");
         t.act(1, x -> x.issue(0, 1));
         t.act(1, x -> x.fire(0, 1, 1));
@@ -170,6 +174,80 @@ public final class TermsEdgesTest extends Edges {
         t.tells(6000, x -> x.count(11));
         t.act(0, x -> x.bid(0, 60, 100));
         t.tells(6000, x -> x.kiln(0, HELD));
+    }
+
+    private static void permitsOfManyYears() {
+        for (int i = 0; i < 40; i++) {
+            int year = i;
+            t.act(1 + year % 3, x -> x.issue(0, 1 + year % 3));
+            t.tells(1 + year % 3, x -> x.ofYear(0, year));
+            t.act(0, x -> x.endYear());
+        }
+        for (int i = 0; i < 40; i++) {
+            int year = i;
+            t.tells(1 + year % 3, x -> x.ofYear(0, year));
+        }
+        t.tells(0, x -> x.ofYear(0, 40));
+        t.tells(79, x -> x.kiln(0, PERMITS));
+        // 20 years, and one permit of the two of the year 19
+        t.done(40, x -> x.keep());
+        t.act(0, x -> x.ask(0, 38, 20));
+        t.tells(1, x -> x.ofYear(0, 19));
+        t.tells(19, x -> x.kiln(0, OLDEST));
+        t.act(36, x -> x.bid(1, 36, 20));
+        t.tells(0, x -> x.kiln(1, OLDEST));
+        t.tells(3, x -> x.ofYear(1, 17));
+        t.tells(0, x -> x.ofYear(1, 18));
+        t.act(36, x -> x.fire(1, 36, 36));
+        t.act(0, x -> x.endYear());
+        t.refused(NONE, x -> x.kiln(1, OLDEST));
+        t.act(2, x -> x.takeBack(0));
+        t.tells(1, x -> x.ofYear(0, 18));
+        t.tells(2, x -> x.ofYear(0, 19));
+        t.act(40, x -> x.restore());
+        t.tells(79, x -> x.kiln(0, PERMITS));
+        t.tells(1, x -> x.ofYear(0, 39));
+    }
+
+    /** What was issued in years that were undone or left by restore() does not come again with them. */
+    private static void yearsThatComeAgain() {
+        newTown();
+        t.first(x -> x.issue(0, 3));
+        t.first(x -> x.keep());
+        for (int year = 0; year < 12; year++) {
+            t.first(x -> x.endYear());
+            t.first(x -> x.issue(0, 5));
+        }
+        t.act(0, x -> x.restore());
+        for (int year = 0; year < 14; year++) {
+            t.first(x -> x.endYear());
+        }
+        t.act(2, x -> x.issue(0, 2));
+        t.tells(3, x -> x.ofYear(0, 0));
+        for (int i = 1; i <= 13; i++) {
+            int year = i;
+            t.tells(0, x -> x.ofYear(0, year));
+        }
+        t.tells(2, x -> x.ofYear(0, 14));
+        t.tells(5, x -> x.kiln(0, PERMITS));
+        t.act(5, x -> x.fire(0, 5, 5));
+        t.act(0, x -> x.endYear());
+        t.act(1, x -> x.fire(0, 1, 1));
+        t.act(1, x -> x.endYear());
+        newTown();
+        for (int year = 0; year < 3; year++) {
+            t.first(x -> x.issue(0, 5));
+            t.first(x -> x.endYear());
+        }
+        for (int left = 3; left >= 0; left--) {
+            t.first(x -> x.undo());
+        }
+        t.tells(1, x -> x.count(0));
+        t.act(0, x -> x.endYear());
+        t.act(1, x -> x.issue(0, 1));
+        t.tells(5, x -> x.ofYear(0, 0));
+        t.tells(0, x -> x.ofYear(0, 1));
+        t.tells(1, x -> x.ofYear(0, 2));
     }
 
     private static void takenOffFirst() {
@@ -1252,6 +1330,13 @@ public final class TermsEdgesTest extends Edges {
     }
 
     private static void errors() {
+        says("Errors are reported by the constants below.");
+        c.due(-1, UNKNOWN);
+        c.due(-2, BAD_VALUE);
+        c.due(-3, FULL);
+        c.due(-4, KilnPermits.NOT_POSSIBLE);
+        c.due(-5, NONE);
+
         says("Where several errors can apply, the order of the @return line is the order of the checks.");
         t.refused(UNKNOWN, x -> x.issue(6, 0));
         t.refused(UNKNOWN, x -> x.fire(-1, 0, 1));
